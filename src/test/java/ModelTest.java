@@ -98,11 +98,11 @@ public final class ModelTest {
     }
 
     private static boolean oneCall(List<String> calls, MoorStones x, Model m) {
-        int a = drawCell(m);
-        int b = draw(12) == 0 ? a : drawCell(m);
-        int k = draw(8) == 0 ? draw(7) - 1 : draw(Math.max(1, m.walkers.size()));
-        int what = draw(7) - 1;
-        int image = draw(10) == 0 ? draw(5) - 2 : draw(2);
+        int a = wild(drawCell(m));
+        int b = draw(12) == 0 ? a : wild(drawCell(m));
+        int k = wild(draw(8) == 0 ? draw(7) - 1 : draw(Math.max(1, m.walkers.size())));
+        int what = wild(draw(7) - 1);
+        int image = wild(draw(10) == 0 ? draw(5) - 2 : draw(2));
         int set = draw(4) == 0 ? draw(1 << 30) - (1 << 29) : 1 << draw(24) | 1 << draw(24) | draw(2) << draw(24);
         long got;
         long due;
@@ -113,14 +113,14 @@ public final class ModelTest {
             case 2: case 3: case 4:
                 if (draw(6) != 0) { a = m.someBog(draw(24)); }
                 call = "passes " + k + " " + a; got = x.passes(k, a); due = m.passes(k, a); break;
-            case 5: { int n = draw(4) == 0 ? draw(13) - 1 : 1 + draw(2);
+            case 5: { int n = draw(4) == 0 ? wild(draw(13) - 1) : 1 + draw(2);
                 call = "days " + n; got = x.days(n); due = m.days(n); break; }
             case 6: call = "now " + what; got = x.now(what); due = m.now(what); break;
             case 7:
                 if (draw(3) != 0) { call = "trace"; got = x.trace(); due = m.trace; break; }
                 call = "anew"; got = x.anew(); due = m.anew(); break;
             case 8: call = "steps " + a + " " + b; got = x.steps(a, b); due = m.steps(a, b); break;
-            case 9: case 10: { int i = draw(8) - 1;
+            case 9: case 10: { int i = wild(draw(8) - 1);
                 call = "way " + a + " " + b + " " + i; got = x.way(a, b, i); due = m.way(a, b, i); break; }
             case 11: call = "stones " + a + " " + b; got = x.stones(a, b); due = m.stones(a, b); break;
             case 12: { int w = draw(8) == 0 ? what : draw(2);
@@ -128,13 +128,19 @@ public final class ModelTest {
             case 13: call = "likes " + k; got = x.likes(k); due = m.likes(k); break;
             case 14: call = "byTurns " + a + " " + b; got = x.byTurns(a, b); due = m.byTurns(a, b); break;
             case 15: call = "apart " + a + " " + b; got = x.apart(a, b); due = m.apart(a, b); break;
-            case 16: case 17: { int kind = draw(8) - 1;
+            case 16: case 17: { int kind = wild(draw(8) - 1);
                 call = "rate " + kind + " " + k; got = x.rate(kind, k); due = m.rate(kind, k); break; }
             case 18: call = "keep " + image; got = x.keep(image); due = m.keep(image); break;
             default: call = "back " + image; got = x.back(image); due = m.back(image); break;
         }
         calls.add(call);
         return same(calls, call, got, due);
+    }
+
+    /** Now and then a number far off, in the stead of an ordinary one. */
+    private static int wild(int ordinary) {
+        int[] far = {Integer.MIN_VALUE, Integer.MAX_VALUE, 24, 25, 31, 32, 33, 64, -31, -32, -33, 1 << 16};
+        return draw(60) == 0 ? far[draw(far.length)] : ordinary;
     }
 
     private static int drawCell(Model m) {

@@ -204,6 +204,17 @@ public final class PromiseTest {
         due("sink", x.count(3), 0);
         dueAll("ground", ground(x), 0, 1);
         due("image is gone", x.back(0), STATE);
+        due("keep 1", x.keep(1), 0);
+        due("moor of no text", x.moor(), 0);
+        due("the other image is gone, too", x.back(1), STATE);
+        typeText(x, "row bsbsbs;row ssssss;sink 4;walker 0 1;?");
+        due("moor", x.moor(), -50);
+        due("clear", x.clear(), 41);
+        typeText(x, "row hhhhhh;row hhhhhh;");
+        due("moor", x.moor(), 2);
+        due("nothing is left of a FAULT's text: heather", x.now(0), 12);
+        due("sink", x.count(3), 0);
+        due("walkers", x.count(2), 0);
         due("moor of no text", x.moor(), 0);
         due("wide", x.count(0), 0);
         due("high", x.count(1), 0);
@@ -622,7 +633,12 @@ public final class PromiseTest {
         due("nothing is changed", thirteen.now(1), 3);
         due("a STONE is as HEATHER", told("row hssh;", 1).apart(0, 3), 2);
         // one place through which all must go
-        due("one will do", told("row hhbbbb;row bhbhhh;", 2).apart(0, 11), 1);
+        MoorStones narrow = told("row hhbbbb;row bhbhhh;", 2);
+        due("one will do", narrow.apart(0, 11), 1);
+        due("one will do, though two are near 11", narrow.apart(11, 0), 1);
+        due("one will do, seen from the middle", narrow.apart(7, 0), 1);
+        due("one step and one that does not bear", narrow.apart(2, 0), NONE);
+        due("two, though three are near 2", told("row hhhhhh;row bbbbbb;row bbhbbb;", 3).apart(2, 5), 2);
     }
 
     private static void promise18Rate() {
