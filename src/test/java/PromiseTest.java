@@ -2,10 +2,7 @@
  * Every promise by its number: ordinary inputs, the edges that the document names, wrong inputs. What is due was
  * worked out by hand from the document.
  */
-public final class PromiseTest {
-    private static final int BAD = -1, STATE = -2, FULL = -3, NONE = -9, NO = -1000000;
-    private static int wrong = 0;
-
+public final class PromiseTest extends Checks {
     public static void main(String[] args) {
         constants();
         promise1NewObject();
@@ -34,65 +31,7 @@ public final class PromiseTest {
         promise22Trace();
         refusedCallsChangeNothing();
         objectsAreApart();
-        System.out.println(wrong == 0 ? "all promises hold" : wrong + " answers are not as due");
-        if (wrong != 0) {
-            System.exit(1);
-        }
-    }
-
-    private static void due(String call, long got, long want) {
-        if (got != want) {
-            wrong++;
-            System.out.println(call + " answered " + got + ", due is " + want);
-        }
-    }
-
-    /** A row of answers at once, so that a moor can be looked at in one line. */
-    private static void dueAll(String calls, int[] got, int... want) {
-        due(calls + ": how many", got.length, want.length);
-        for (int i = 0; i < Math.min(got.length, want.length); i++) {
-            due(calls + " [" + i + "]", got[i], want[i]);
-        }
-    }
-
-    private static void typeText(MoorStones x, String text) {
-        int had = x.count(4);
-        for (int i = 0; i < text.length(); i += 8) {
-            int n = Math.min(8, text.length() - i);
-            long v = 0;
-            for (int j = 0; j < n; j++) {
-                v = v << 8 | text.charAt(i + j);
-            }
-            due("type of " + text, x.type(v, n), had + i + n);
-        }
-    }
-
-    private static MoorStones told(String text, int items) {
-        MoorStones x = new MoorStones();
-        typeText(x, text);
-        due("moor() of " + text, x.moor(), items);
-        return x;
-    }
-
-    private static int[] ground(MoorStones x) {
-        return cells(x, 0);
-    }
-
-    private static int[] cells(MoorStones x, int what) {
-        int[] all = new int[x.count(0) * x.count(1)];
-        for (int c = 0; c < all.length; c++) {
-            all[c] = x.cell(c, what);
-        }
-        return all;
-    }
-
-    private static int[] way(MoorStones x, int a, int b) {
-        int length = Math.max(0, x.steps(a, b) + 1);
-        int[] way = new int[length];
-        for (int i = 0; i < length; i++) {
-            way[i] = x.way(a, b, i);
-        }
-        return way;
+        end("all promises hold");
     }
 
     private static void constants() {
@@ -291,14 +230,6 @@ public final class PromiseTest {
         told("row b ; row s;", 2);
         told("row hh;walker1 0;", 2);
         told("row hh;walker 1   0  ;", 2);
-    }
-
-    private static void fault(String text, int place) {
-        MoorStones x = new MoorStones();
-        typeText(x, text);
-        due("moor() of " + text, x.moor(), -10 - place);
-        due("moor() once more of " + text, x.moor(), -10 - place);
-        due("bytes of " + text, x.count(4), text.length());
     }
 
     private static void promise5Cell() {
