@@ -181,10 +181,10 @@ public final class BoundaryTest extends Checks {
         MoorStones x = told("row hhhhhh;row bbbbbb;row hhhhhh;", 3);
         dueAll("straight down", way(x, 0, 12), 0, 12);
         dueAll("straight up", way(x, 17, 5), 17, 5);
-        MoorStones long1 = told("row hhhhhh;row bbbbbh;row bbbbbh;row hhhhhh;", 4);
-        dueAll("round about", way(long1, 0, 18), 0, 1, 3, 5, 11, 23, 21, 19, 18);
-        due("its last", long1.way(0, 18, 8), 18);
-        due("behind it", long1.way(0, 18, 9), -5);
+        MoorStones round = told("row hhhhhh;row bbbbbh;row bbbbbh;row hhhhhh;", 4);
+        dueAll("round about", way(round, 0, 18), 0, 1, 3, 5, 11, 23, 21, 19, 18);
+        due("its last", round.way(0, 18, 8), 18);
+        due("behind it", round.way(0, 18, 9), -5);
     }
 
     /** "the first by its CELLS (the first that differs is less)" */
@@ -332,6 +332,7 @@ public final class BoundaryTest extends Checks {
         MoorStones least = told("row bhh;walker 1 2;", 2);
         due("the least CELL", least.passes(0, 0), 1);
         due("by whom", least.cell(0, 2), 0);
+        due("laid", least.walker(0, 3), 1);
     }
 
     /** "STATE: no WAY" */
@@ -757,7 +758,10 @@ public final class BoundaryTest extends Checks {
     private static void apartTwelveMayBear() {
         MoorStones fourteen = told("row hhhh;row hhhh;row hhhh;row hhbb;", 4);
         due("14 bear, twelve beside the two", fourteen.apart(0, 11), 4);
+        due("14 bear, twelve beside the two", fourteen.apart(11, 0), 4);
+        due("14 bear, twelve beside two others", fourteen.apart(4, 13), 3);
         due("and one STEP", fourteen.apart(0, 1), NONE);
+        due("and one STEP", fourteen.apart(12, 13), NONE);
         due("14 bear, 13 beside the one", fourteen.apart(0, 14), STATE);
         due("14 bear, 13 beside the other", fourteen.apart(14, 0), STATE);
         due("14 bear, 14 beside the two", fourteen.apart(14, 15), STATE);
@@ -1007,13 +1011,13 @@ public final class BoundaryTest extends Checks {
         due("none was kept there", x.back(0), STATE);
     }
 
-    /** "at most 512 calls": the dearest calls, as often as can be, come to an end and answer alike */
+    /** "at most 512 calls": the dearest calls, about as often as can be, come to an end and answer alike */
     private static void callsAtTheirMost() {
         MoorStones joined = told("row bbbbb;row bbbbb;", 2);
         MoorStones turns = told("row bbbb;row bbbb;", 2);
         MoorStones apart = told("row hhhh;row hhhh;row hhhh;row hhbb;", 4);
         MoorStones days = told(MIRE.replace("row bb", "row hh") + times("walker 0 1;", 4) + "sink 1;", 9);
-        for (int i = 0; i < 500; i++) {
+        for (int i = 0; i < 490; i++) {
             due("joined", joined.joined(-1, 1), 1023);
             due("byTurns", turns.byTurns(0, 1), 3);
             due("apart", apart.apart(0, 11), 4);

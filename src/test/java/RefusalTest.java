@@ -127,8 +127,11 @@ public final class RefusalTest extends Checks {
         List<Integer> seen = new ArrayList<>();
         look(x, seen);
         for (int image = 0; image <= 1; image++) {
-            seen.add(x.back(image));
-            look(x, seen);
+            int stones = x.back(image);
+            seen.add(stones);
+            if (stones >= 0) {
+                look(x, seen);
+            }
         }
         seen.add(x.anew());
         look(x, seen);
@@ -139,22 +142,22 @@ public final class RefusalTest extends Checks {
         return seen;
     }
 
+    /** All that can change, in as few calls as can be: an object has 512 in all. */
     private static void look(MoorStones x, List<Integer> seen) {
+        int[] told = new int[5];
         for (int what = 0; what <= 4; what++) {
-            seen.add(x.count(what));
+            told[what] = x.count(what);
+            seen.add(told[what]);
         }
-        int cells = x.count(0) * x.count(1);
-        for (int c = 0; c < cells; c++) {
-            seen.add(x.cell(c, 0));
-            seen.add(x.cell(c, 2));
-            if (x.count(3) > 0) {
-                seen.add(x.cell(c, 1));
+        for (int c = 0; c < told[0] * told[1]; c++) {
+            for (int what = 0; what <= 2; what++) {
+                seen.add(x.cell(c, what));
             }
         }
-        for (int k = 0; k < x.count(2); k++) {
-            seen.add(x.walker(k, 0));
-            seen.add(x.walker(k, 1));
-            seen.add(x.walker(k, 2));
+        for (int k = 0; k < told[2]; k++) {
+            for (int what = 0; what <= 2; what++) {
+                seen.add(x.walker(k, what));
+            }
         }
         seen.add((int) x.trace());
     }

@@ -564,6 +564,17 @@ public final class TextBoundaryTest extends Checks {
         due("HEATHER", x.now(0), 1);
         due("BOG", x.now(1), 0);
         due("STONES", x.now(2), 0);
+        due("steps", x.steps(0, 0), 0);
+        typeText(x, "row hbh;row hbb;row bhb;row bbb;");
+        due("moor", x.moor(), 4);
+        due("a STEP across", x.steps(0, 2), 1);
+        due("a STEP down", x.steps(0, 3), 1);
+        due("no STEP over the edges that are now", x.steps(2, 3), 2);
+        due("no STEP over the edges that are now", x.steps(7, 3), NONE);
+        typeText(x, "row hhhhhh;row bbbbbb;");
+        due("moor", x.moor(), 2);
+        due("STEPS where the edge was", x.steps(0, 5), 3);
+        due("STEPS where the edge was", x.steps(5, 0), 3);
         typeText(x, MOST_CELLS + "walker 3 4;");
         due("moor", x.moor(), 5);
         due("STONES", x.now(2), 8);
