@@ -11,13 +11,18 @@ import java.util.regex.Pattern;
 /**
  * Many runs of calls, drawn by a fixed row of numbers, on MoorStones and on a second, slow program that was written
  * from the document alone, with other means: rows and lists instead of bits, a pattern for the TOKENS, least of all
- * paths layer by layer. Both must answer every call alike, and look alike behind every call.
+ * paths layer by layer. Both must answer every call alike, and look alike now and then and at the end. What comes behind
+ * an object's 512th call is free, so no run is longer than that.
  */
 public final class ModelTest {
-    private static final int RUNS = 1200;
-    private static final int CALLS = 120;
+    private static final int RUNS = 3000;
+    private static final int MOST_CALLS = 512;
+    /** As many calls as looking at the greatest moor takes. */
+    private static final int LOOK = 5 + 4 + 24 * 3 + 4 * 4 + 1;
 
     private static long seed;
+    /** How many calls of the run MoorStones has answered. */
+    private static int asked;
 
     public static void main(String[] args) {
         int wrong = 0;
@@ -45,36 +50,49 @@ public final class ModelTest {
         Model m = new Model();
         List<String> calls = new ArrayList<>();
         int bogShare = draw(10);
-        for (int i = 0; i < CALLS; i++) {
-            if (i == 0 || draw(40) == 0) {
-                String text = drawText(bogShare);
-                if (draw(3) == 0) {
-                    text = spoil(text);
-                }
-                calls.add("text " + text);
-                if (draw(4) != 0) {
-                    same(calls, "clear()", x.clear(), m.clear());
-                }
-                String fault = typeAll(calls, x, m, text);
-                if (fault != null) {
-                    return fault;
-                }
-                calls.add("moor()");
-                if (!same(calls, "moor()", x.moor(), m.moor())) {
-                    return calls.toString();
-                }
-            } else if (!oneCall(calls, x, m)) {
-                return calls.toString();
-            }
-            String unlike = unlike(x, m);
-            if (unlike != null) {
-                return calls + " then " + unlike;
+        int most = MOST_CALLS - draw(400);
+        asked = 0;
+        boolean alike = oneText(calls, x, m, bogShare);
+        while (alike && asked + 1 + LOOK <= most) {
+            if (draw(40) == 0) {
+                alike = oneText(calls, x, m, bogShare);
+            } else if (draw(30) == 0 && asked + 2 * LOOK <= most) {
+                alike = oneLook(calls, x, m);
+            } else {
+                alike = oneCall(calls, x, m);
             }
         }
-        return null;
+        if (alike) {
+            alike = oneLook(calls, x, m);
+        }
+        if (asked > MOST_CALLS) {
+            calls.add("more calls than are promised: " + asked);
+            return calls.toString();
+        }
+        return alike ? null : calls.toString();
     }
 
-    private static String typeAll(List<String> calls, MoorStones x, Model m, String text) {
+    /** A text, as long as there are calls left to type it byte by byte. */
+    private static boolean oneText(List<String> calls, MoorStones x, Model m, int bogShare) {
+        String text = drawText(bogShare);
+        if (draw(3) == 0) {
+            text = spoil(text);
+        }
+        if (asked + text.length() + 2 + LOOK > MOST_CALLS) {
+            return true;
+        }
+        calls.add("text " + text);
+        if (draw(4) != 0 && !same(calls, "clear()", x.clear(), m.clear())) {
+            return false;
+        }
+        if (!typeAll(calls, x, m, text)) {
+            return false;
+        }
+        calls.add("moor()");
+        return same(calls, "moor()", x.moor(), m.moor());
+    }
+
+    private static boolean typeAll(List<String> calls, MoorStones x, Model m, String text) {
         int i = 0;
         while (i < text.length()) {
             int n = Math.min(1 + draw(8), text.length() - i);
@@ -83,14 +101,15 @@ public final class ModelTest {
                 v = v << 8 | text.charAt(i + j);
             }
             if (!same(calls, "type(" + v + ", " + n + ")", x.type(v, n), m.type(v, n))) {
-                return calls.toString();
+                return false;
             }
             i += n;
         }
-        return null;
+        return true;
     }
 
     private static boolean same(List<String> calls, String call, long got, long due) {
+        asked++;
         if (got != due) {
             calls.add(call + " answered " + got + ", due is " + due);
         }
@@ -107,7 +126,7 @@ public final class ModelTest {
         long got;
         long due;
         String call;
-        switch (draw(20)) {
+        switch (draw(21)) {
             case 0: call = "cell " + a + " " + what; got = x.cell(a, what); due = m.cell(a, what); break;
             case 1: call = "walker " + k + " " + what; got = x.walker(k, what); due = m.walker(k, what); break;
             case 2: case 3: case 4:
@@ -130,7 +149,8 @@ public final class ModelTest {
             case 15: call = "apart " + a + " " + b; got = x.apart(a, b); due = m.apart(a, b); break;
             case 16: case 17: { int kind = wild(draw(8) - 1);
                 call = "rate " + kind + " " + k; got = x.rate(kind, k); due = m.rate(kind, k); break; }
-            case 18: call = "keep " + image; got = x.keep(image); due = m.keep(image); break;
+            case 18: call = "count " + what; got = x.count(what); due = m.count(what); break;
+            case 19: call = "keep " + image; got = x.keep(image); due = m.keep(image); break;
             default: call = "back " + image; got = x.back(image); due = m.back(image); break;
         }
         calls.add(call);
@@ -148,20 +168,25 @@ public final class ModelTest {
         return draw(15) == 0 || cells == 0 ? draw(40) - 8 : draw(cells);
     }
 
-    private static String unlike(MoorStones x, Model m) {
-        List<String> calls = new ArrayList<>();
-        for (int what = -1; what < 6; what++) {
-            same(calls, "count " + what, x.count(what), m.count(what));
-            same(calls, "now " + what, x.now(what), m.now(what));
-            for (int c = -1; c <= m.wide * m.high; c++) {
-                same(calls, "cell " + c + " " + what, x.cell(c, what), m.cell(c, what));
-            }
-            for (int k = -1; k <= m.walkers.size(); k++) {
-                same(calls, "walker " + k + " " + what, x.walker(k, what), m.walker(k, what));
+    /** All that can be seen of NOW and of what was told. */
+    private static boolean oneLook(List<String> calls, MoorStones x, Model m) {
+        calls.add("look");
+        boolean alike = same(calls, "trace", x.trace(), m.trace);
+        for (int what = 0; what <= 4; what++) {
+            alike &= same(calls, "count " + what, x.count(what), m.count(what));
+        }
+        for (int what = 0; what <= 3; what++) {
+            alike &= same(calls, "now " + what, x.now(what), m.now(what));
+            for (int k = 0; k < m.walkers.size(); k++) {
+                alike &= same(calls, "walker " + k + " " + what, x.walker(k, what), m.walker(k, what));
             }
         }
-        same(calls, "trace", x.trace(), m.trace);
-        return calls.isEmpty() ? null : calls.toString();
+        for (int what = 0; what <= 2; what++) {
+            for (int c = 0; c < m.wide * m.high; c++) {
+                alike &= same(calls, "cell " + c + " " + what, x.cell(c, what), m.cell(c, what));
+            }
+        }
+        return alike;
     }
 
     private static String blanks() {
